@@ -426,7 +426,12 @@ public final class MulesRemember {
     }
 
     private static int firstOf(int bits) {
-        return bits == 0 ? NONE : Integer.numberOfTrailingZeros(bits);
+        for (int article = 0; article < MOST_ARTICLES; article++) {
+            if ((bits >> article & 1) != 0) {
+                return article;
+            }
+        }
+        return NONE;
     }
 
     private void readPart(int at) {
@@ -453,10 +458,10 @@ public final class MulesRemember {
     private int knownIfShown(int kind, int shown) {
         int all = law.all();
         switch (kind) {
-            case PLAIN: return shown | EVEN_ARTICLES & all;
+            case PLAIN: return shown | (EVEN_ARTICLES & all);
             case OLD: return all;
             case FOAL: return shown;
-            case CIRCUS: return Integer.highestOneBit(all);
+            case CIRCUS: return law.last();
             default: return 0;
         }
     }
@@ -679,9 +684,10 @@ public final class MulesRemember {
         tally[0] *= TENTHS - tenths;
     }
 
+    /** The upper or the lower part in least terms, by Euclid; no fraction of ours is less than 0. */
     private static int fractionPart(int part, int whole, boolean upper) {
         int divisor = whole;
-        int left = Math.abs(part);
+        int left = part;
         for (int i = 0; i < 100 && left != 0; i++) {
             int rest = divisor % left;
             divisor = left;
@@ -781,6 +787,10 @@ public final class MulesRemember {
 
         private int all() {
             return (1 << count) - 1;
+        }
+
+        private int last() {
+            return count > 0 ? 1 << (count - 1) : 0;
         }
 
         private boolean forbids(int article, int onto, int coat, int hour, int way, int others) {

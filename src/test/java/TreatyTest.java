@@ -251,6 +251,9 @@ public final class TreatyTest {
         due.is("a plain one of 2", y.mule(0, 4), 0b01);
         due.is("an old one of 2", y.mule(1, 4), 0b11);
         due.is("one of a circus of 2", y.mule(3, 4), 0b10);
+        MulesRemember one = Due.withTreaty("MA520M403");
+        due.is("one of a circus of 1", one.mule(0, 4), 0b1);
+        due.is("it balks", one.balks(0, 1), 0);
         MulesRemember z = Due.withTreaty("MM400M401M402M403");
         for (int mule = 0; mule < 4; mule++) {
             due.is("no articles, mule " + mule, z.mule(mule, 4), 0);

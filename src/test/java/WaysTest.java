@@ -92,6 +92,10 @@ public final class WaysTest {
         due.is("within twelve", y.enclaves(1), 0b1100000000);
         due.is("from the north", y.enclaves(2), 0b0000000111);
         due.is("nothing is changed", y.about(2), 0);
+        MulesRemember z = Due.withTreaty("MA119M001");
+        due.is("at hour 0", z.enclaves(0), 0b1111110000);
+        Due.pauses(z, 9);
+        due.is("at hour 9", z.enclaves(0), 0);
         due.is("no such mule", y.enclaves(3), UNKNOWN);
         due.is("no such mule", y.enclaves(-1), UNKNOWN);
     }
@@ -110,6 +114,8 @@ public final class WaysTest {
         due.is("the least of like ones", y.teach(0), 0b01001);
         MulesRemember one = Due.withTreaty("MA910A519M402");
         due.is("the one that forbids", one.teach(0), 0b10);
+        due.is("all there are", Due.withTreaty("MA519A319M402").teach(0), 0b11);
+        due.is("the only one", Due.withTreaty("MA519M402").teach(0), 0b1);
         MulesRemember edge = Due.withTreaty("MA111A819M002M902");
         due.is("only one step at the south end", edge.teach(0), 0b01);
         due.is("only one step at the north end", edge.teach(1), 0b10);
