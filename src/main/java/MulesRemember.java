@@ -257,7 +257,7 @@ public final class MulesRemember {
         for (int i = 1; i < n; i++) {
             unit *= 100;
         }
-        if (row / unit > 99) {
+        if (unit <= 0 || row / unit > 99) {
             return BAD;
         }
         copyState(now, tried);
