@@ -192,7 +192,7 @@ public final class MulesRemember {
             return LATE;
         }
         actCount--;
-        copyState(acts[(firstAct + actCount) % MOST_ACTS], now);
+        copyState(actAt(actCount), now);
         return actCount;
     }
 
@@ -517,7 +517,7 @@ public final class MulesRemember {
 
     private int othersFromNorthOf(State state, int mule, int stone) {
         int count = 0;
-        for (int other = 0; other < muleCount; other++) {
+        for (int other = 0; other < muleCount && other < MOST_MULES; other++) {
             if (other != mule && state.stone[other] >= stone) {
                 count++;
             }
@@ -556,8 +556,14 @@ public final class MulesRemember {
             firstAct = (firstAct + 1) % MOST_ACTS;
             actCount--;
         }
-        copyState(now, acts[(firstAct + actCount) % MOST_ACTS]);
+        copyState(now, actAt(actCount));
         actCount++;
+    }
+
+    /** The state ahead of an act, by its place in the row, the first act's being 0. */
+    private State actAt(int place) {
+        int at = (firstAct + place) % MOST_ACTS;
+        return at >= 0 && at < acts.length ? acts[at] : null;
     }
 
     private void go(State state, int mule, int way) {

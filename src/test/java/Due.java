@@ -1,11 +1,17 @@
 /** Counts and prints the calls whose answer is not the one that is due. */
 final class Due {
     private int wrong = 0;
+    private String sentence = "";
+
+    /** The sentence of the document that the rows from here on are a test of. */
+    void of(String told) {
+        sentence = told + ": ";
+    }
 
     void is(String call, long got, long want) {
         if (got != want) {
             wrong++;
-            System.out.println(call + " answered " + got + ", due is " + want);
+            System.out.println(sentence + call + " answered " + got + ", due is " + want);
         }
     }
 
@@ -30,6 +36,10 @@ final class Due {
 
     static void rewrite(MulesRemember x, String text) {
         x.wipe();
+        write(x, text);
+    }
+
+    static void write(MulesRemember x, String text) {
         for (char letter : text.toCharArray()) {
             x.write(letter);
         }

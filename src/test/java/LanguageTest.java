@@ -24,8 +24,11 @@ public final class LanguageTest {
         "int undo()", "int unsee()", "int way(int,int,boolean)", "int wipe()", "int write(int)", "int years(int)",
         "long seed(long)"};
     private static final String[] RULED_OUT = {
-        "throw", "try", "catch", "synchronized", "assert", "import", "->", "::", "Exception", "System", "Random",
-        "Object", "equals", "hashCode", "toString", "protected"};
+        "\\bthrows?\\b", "\\btry\\b", "\\bcatch\\b", "\\bfinally\\b", "\\bsynchronized\\b", "\\bvolatile\\b",
+        "\\bassert\\b", "\\bprotected\\b", "::", "\\w*Exception\\b", "\\w*Error\\b", "\\bRandom\\b", "\\bThread\\b",
+        "\\bObject\\b", "\\w+Exact\\b", "\\bstatic\\s*\\{", "\\bSystem\\b(?!\\s*\\.\\s*arraycopy\\b)",
+        "\\bimport\\s+(?!java\\.util\\.(?:ArrayList|List|Iterator|Arrays)\\s*;)",
+        "\\bboolean\\s+equals\\b", "\\bint\\s+hashCode\\b", "\\bString\\s+toString\\b"};
 
     public static void main(String[] args) throws IOException {
         face();
@@ -101,10 +104,20 @@ public final class LanguageTest {
     private static void words() throws IOException {
         String text = Files.readString(Path.of("src/main/java/MulesRemember.java"));
         text = text.replaceAll("(?s)/\\*.*?\\*/", " ").replaceAll("//[^\n]*", " ");
-        for (String word : RULED_OUT) {
-            boolean isWord = Character.isLetter(word.charAt(0));
-            Matcher m = Pattern.compile(isWord ? "\\b" + word + "\\b" : Pattern.quote(word)).matcher(text);
-            due.is("the word " + word, m.find() ? 1 : 0, 0);
+        for (String rule : RULED_OUT) {
+            Matcher m = Pattern.compile(rule).matcher(text);
+            due.is("ruled out: " + rule, m.find() ? 1 : 0, 0);
         }
+        due.is("no lambda", lambdas(text), 0);
+    }
+
+    /** Arrows that are no case of a switch. */
+    private static int lambdas(String text) {
+        int count = 0;
+        for (String line : text.split("\n")) {
+            boolean isCase = line.trim().startsWith("case ") || line.trim().startsWith("default");
+            count += line.contains("->") && !isCase ? 1 : 0;
+        }
+        return count;
     }
 }
